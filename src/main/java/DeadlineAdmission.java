@@ -13,6 +13,7 @@ public final class DeadlineAdmission {
     private static final int LONGEST_PERIOD = 40;
     private static final int GREATEST_IMPORTANCE = 9;
     private static final int MOST_LEVELS = 2;
+    private static final int MOST_STEPS = MOST_TASKS * MOST_LEVELS;
     private static final int GREATEST_SCALE = 8;
     private static final int LONGEST_INTERVAL = 200;
     private static final int LONGEST_HORIZON = 200;
@@ -41,7 +42,7 @@ public final class DeadlineAdmission {
         saved = new Configuration();
         history = new History();
         text = new TaskText();
-        simulation = new Simulation(current);
+        simulation = new Simulation();
     }
 
     // Changes of the configuration
@@ -57,7 +58,11 @@ public final class DeadlineAdmission {
         }
         trial.copyFrom(current);
         trial.append(period, deadline, lowBudget, highBudget, importance, levels);
-        if (!degradeTrialUntilAdmissible()) {
+        boolean admissible = trial.takeGreatestScale();
+        for (int step = 0; step < MOST_STEPS && !admissible && trial.degradeOnce(); step++) {
+            admissible = trial.takeGreatestScale();
+        }
+        if (!admissible) {
             recordRejection();
             return REJECTED;
         }
@@ -321,7 +326,7 @@ public final class DeadlineAdmission {
         if (horizon < 1 || horizon > LONGEST_HORIZON) {
             throw new IllegalArgumentException("the horizon is out of range");
         }
-        simulation.run(seed, overrun, horizon);
+        simulation.run(current, seed, overrun, horizon);
         hasSimulation = true;
         return simulation.lateJobs;
     }
@@ -394,17 +399,6 @@ public final class DeadlineAdmission {
     }
 
     // Steps of the calls above
-
-    private boolean degradeTrialUntilAdmissible() {
-        boolean admissible = trial.takeGreatestScale();
-        for (int step = 0; !admissible && step < MOST_TASKS * MOST_LEVELS; step++) {
-            if (!trial.degradeOnce()) {
-                return false;
-            }
-            admissible = trial.takeGreatestScale();
-        }
-        return admissible;
-    }
 
     private void recordRejection() {
         int lowFailure = trial.firstFailure(LOW, GREATEST_SCALE);
@@ -515,9 +509,6 @@ public final class DeadlineAdmission {
         }
 
         void append(int newPeriod, int newDeadline, int newLow, int newHigh, int newImportance, int newLevels) {
-            if (count >= MOST_TASKS) {
-                return;
-            }
             basePeriod[count] = newPeriod;
             deadline[count] = newDeadline;
             lowBudget[count] = newLow;
@@ -544,35 +535,40 @@ public final class DeadlineAdmission {
         }
 
         int deadlineWithScale(int task, int anyScale) {
-            if (!hasHighBudget(task)) {
+            if (highBudget[task] == 0) {
                 return deadline[task];
             }
-            return Math.max(deadline[task] * anyScale / GREATEST_SCALE, lowBudget[task]);
+            int scaled = deadline[task] * anyScale / GREATEST_SCALE;
+            return scaled > lowBudget[task] ? scaled : lowBudget[task];
         }
 
         int totalDemand(int mode, int t, int anyScale) {
             int sum = 0;
             for (int task = 0; task < count; task++) {
-                sum += mode == LOW ? lowDemand(task, t, anyScale) : highDemand(task, t, anyScale);
+                int first = deadlineWithScale(task, anyScale);
+                int cycle = effectivePeriod(task);
+                if (mode == LOW) {
+                    sum += lowDemand(task, t, first, cycle);
+                } else if (highBudget[task] > 0) {
+                    sum += highDemand(task, t, deadline[task] - first, cycle);
+                }
             }
             return sum;
         }
 
-        private int lowDemand(int task, int t, int anyScale) {
-            int sinceFirst = t - deadlineWithScale(task, anyScale);
-            if (sinceFirst < 0) {
+        private int lowDemand(int task, int t, int first, int cycle) {
+            if (t < first) {
                 return 0;
             }
-            return lowBudget[task] * (1 + sinceFirst / effectivePeriod(task));
+            return lowBudget[task] * (1 + (t - first) / cycle);
         }
 
-        private int highDemand(int task, int t, int anyScale) {
-            int gap = deadline[task] - deadlineWithScale(task, anyScale);
-            if (!hasHighBudget(task) || t < gap) {
+        private int highDemand(int task, int t, int gap, int cycle) {
+            if (t < gap) {
                 return 0;
             }
-            int rest = t % effectivePeriod(task);
-            int full = highBudget[task] * (1 + (t - gap) / effectivePeriod(task));
+            int rest = t % cycle;
+            int full = highBudget[task] * (1 + (t - gap) / cycle);
             int alreadyDone = lowBudget[task] + gap - rest;
             boolean carriesOver = rest >= gap && rest < deadline[task] && alreadyDone > 0;
             return carriesOver ? full - alreadyDone : full;
@@ -737,7 +733,7 @@ public final class DeadlineAdmission {
      * oldest release and their number tell them all.
      */
     private static final class Simulation {
-        private final Configuration tasks;
+        private final Configuration tasks = new Configuration();
         private final int[] pendingJobs = new int[MOST_TASKS];
         private final int[] oldestRelease = new int[MOST_TASKS];
         private final int[] oldestHasRun = new int[MOST_TASKS];
@@ -753,12 +749,9 @@ public final class DeadlineAdmission {
         private int highSwitches;
         private int unitsWithoutJob;
 
-        Simulation(Configuration tasks) {
-            this.tasks = tasks;
-        }
-
-        void run(int seed, int overrun, int horizon) {
+        void run(Configuration configuration, int seed, int overrun, int horizon) {
             clear();
+            tasks.copyFrom(configuration);
             draw = seed;
             overrunPercentage = overrun;
             end = Math.min(horizon, LONGEST_HORIZON);
