@@ -530,8 +530,10 @@ public final class DeadlineAdmission {
             return highBudget[task] > 0;
         }
 
+        /** Every divisor of the class comes from here, so it is seen here that none is 0. */
         int effectivePeriod(int task) {
-            return basePeriod[task] * (level[task] + 1);
+            int effective = basePeriod[task] * (level[task] + 1);
+            return effective >= 1 ? effective : 1;
         }
 
         int deadlineWithScale(int task, int anyScale) {

@@ -228,7 +228,7 @@ public final class PromiseTest {
         DeadlineAdmission mended = new DeadlineAdmission();
         type(mended, "7x");
         due("proposeText()", ARGUMENT, () -> mended.proposeText());
-        type(mended, "7,7,1,0,0,0");
+        type(mended, "7,7,1,0,9,0");
         due("faultPosition() while typing", 1, () -> mended.faultPosition());
         due("proposeText()", 0, () -> mended.proposeText());
         due("faultPosition()", -1, () -> mended.faultPosition());
@@ -252,6 +252,9 @@ public final class PromiseTest {
         due("withdraw(1)", 1, () -> x.withdraw(1));
         due("withdraw(0)", 0, () -> x.withdraw(0));
         due("withdraw(0) of none", INDEX, () -> x.withdraw(0));
+        DeadlineAdmission rejecting = with(task(4, 4, 4, 0, 0, 0));
+        due("propose(4, 4, 1, 0, 0, 0)", -1, () -> rejecting.propose(4, 4, 1, 0, 0, 0));
+        due("withdraw(0) after a rejection", 0, () -> rejecting.withdraw(0));
     }
 
     private static void upgrade() {
@@ -274,6 +277,12 @@ public final class PromiseTest {
         due("undo() of an upgrade of nothing", 4, () -> twice.undo());
         due("undo() of the upgrade", 3, () -> twice.undo());
         levels(twice, 0, 2);
+        due("upgrade() after undo()", 2, () -> twice.upgrade());
+        DeadlineAdmission least = with(task(4, 4, 2, 0, 0, 2));
+        due("setLevel(0, 2)", 0, () -> least.setLevel(0, 2));
+        due("propose(1, 1, 1, 0, 0, 0)", -1, () -> least.propose(1, 1, 1, 0, 0, 0));
+        due("upgrade() of importance 0", 2, () -> least.upgrade());
+        due("taskCount()", 1, () -> least.taskCount());
     }
 
     private static void setLevel() {
@@ -383,6 +392,7 @@ public final class PromiseTest {
         promise = 17;
         due("isCritical(0)", true, () -> x.isCritical(0));
         due("isCritical(1)", false, () -> x.isCritical(1));
+        due("isCritical(0) with CH 1", true, () -> with(task(5, 5, 1, 1, 0, 0)).isCritical(0));
         due("isCritical(2)", INDEX, () -> x.isCritical(2));
         due("isCritical(-1)", INDEX, () -> x.isCritical(-1));
     }
@@ -409,6 +419,11 @@ public final class PromiseTest {
         due("demand(1, 5) without a gap", 1, () -> equal.demand(1, 5));
     }
 
+    /** Its demand in low mode meets t at 200 alone. */
+    private static DeadlineAdmission tightAtTheEnd() {
+        return with(task(40, 40, 24, 0, 0, 0), task(35, 35, 7, 0, 0, 0), task(34, 29, 5, 0, 0, 0), task(35, 28, 3, 0, 0, 0));
+    }
+
     private static void slackAndTightest() {
         promise = 19;
         DeadlineAdmission none = new DeadlineAdmission();
@@ -418,11 +433,13 @@ public final class PromiseTest {
         due("slack(1)", 1, () -> none.slack(1));
         due("slack(0)", 0, () -> full.slack(0));
         due("slack(0)", 0, () -> late.slack(0));
+        due("slack(0) at the last t", 0, () -> tightAtTheEnd().slack(0));
         due("slack(1)", 1, () -> late.slack(1));
         due("slack(1)", 0, () -> mixed().slack(1));
         due("slack(2)", ARGUMENT, () -> full.slack(2));
         due("slack(-1)", ARGUMENT, () -> full.slack(-1));
         promise = 20;
+        due("tightest(0) at the last t", 200, () -> tightAtTheEnd().tightest(0));
         due("tightest(0)", 1, () -> none.tightest(0));
         due("tightest(0)", 4, () -> full.tightest(0));
         due("tightest(0)", 20, () -> late.tightest(0));
@@ -484,6 +501,7 @@ public final class PromiseTest {
         DeadlineAdmission x = mixed();
         due("load(1)", 1.0f, () -> x.load(1));
         due("load(0)", 17.0f / 36.0f, () -> x.load(0));
+        due("load(0) at the last t", 1.0f, () -> tightAtTheEnd().load(0));
         due("load(0)", 0.0f, () -> new DeadlineAdmission().load(0));
         due("load(2)", ARGUMENT, () -> x.load(2));
         due("load(-1)", ARGUMENT, () -> x.load(-1));
@@ -520,6 +538,9 @@ public final class PromiseTest {
         points(mixed(), 196, 88, 39, 17, 7);
         points(with(task(40, 40, 40, 0, 0, 0)), 200, 160, 120, 80, 40);
         points(with(task(40, 40, 1, 0, 0, 0)), 200);
+        points(with(task(40, 5, 1, 0, 0, 0)), 165);
+        points(with(task(40, 4, 1, 0, 0, 0)), 164, 5);
+        points(with(task(40, 1, 1, 0, 0, 0)), 161, 5);
         points(with(task(40, 10, 9, 0, 0, 0), task(40, 20, 11, 0, 0, 0)), 180, 100, 60, 40, 20, 10);
         int[] all = new int[200];
         for (int k = 0; k < 200; k++) {
@@ -545,6 +566,12 @@ public final class PromiseTest {
         rejected(low, 0, 8, 10);
         due("propose(4, 4, 4, 0, 0, 2)", -1, () -> low.propose(4, 4, 4, 0, 0, 2));
         rejected(low, 0, 4, 8);
+        DeadlineAdmission atOnce = with(task(5, 1, 1, 0, 0, 0));
+        due("propose(5, 1, 1, 0, 0, 0)", -1, () -> atOnce.propose(5, 1, 1, 0, 0, 0));
+        rejected(atOnce, 0, 1, 2);
+        DeadlineAdmission atTheEnd = with(task(25, 25, 17, 0, 0, 0), task(40, 40, 5, 0, 0, 0));
+        due("propose(25, 25, 5, 0, 0, 0)", -1, () -> atTheEnd.propose(25, 25, 5, 0, 0, 0));
+        rejected(atTheEnd, 0, 200, 201);
     }
 
     private static void rejected(DeadlineAdmission x, int mode, int length, int demand) {
@@ -626,7 +653,27 @@ public final class PromiseTest {
         due("simulate(1, 0, 6)", 0, () -> earlier.simulate(1, 0, 6));
         due("response(0) of the later deadline", 4, () -> earlier.response(0));
         due("response(1) of the earlier deadline", 2, () -> earlier.response(1));
+        due("simulate(1, 0, 1)", 0, () -> earlier.simulate(1, 0, 1));
+        due("response(1) of an earlier simulation", NONE, () -> earlier.response(1));
+        virtualDeadlinesFirst();
         forgetting(x);
+    }
+
+    /** The critical task has the virtual deadline 7 before the other's 9, though its own is 12. */
+    private static void virtualDeadlinesFirst() {
+        DeadlineAdmission x = with(task(20, 9, 3, 0, 0, 0), task(20, 12, 2, 6, 0, 0));
+        promise = 14;
+        due("virtualDeadline(1)", 7, () -> x.virtualDeadline(1));
+        promise = 37;
+        due("simulate(1, 0, 20)", 0, () -> x.simulate(1, 0, 20));
+        due("response(0)", 5, () -> x.response(0));
+        due("response(1)", 2, () -> x.response(1));
+        due("simulate(1, 100, 20)", 0, () -> x.simulate(1, 100, 20));
+        due("response(0) of a dropped job", NONE, () -> x.response(0));
+        due("response(1)", 6, () -> x.response(1));
+        results(x, 1, 1, 1, 14);
+        due("simulate(1, 100, 3)", 0, () -> x.simulate(1, 100, 3));
+        results(x, 0, 1, 1, 0);
     }
 
     private static void forgetting(DeadlineAdmission x) {
