@@ -8,12 +8,14 @@ import java.util.TreeSet;
 import java.util.concurrent.Callable;
 
 /** Long runs of drawn calls, each answer held against a model written straight from the words of the document. */
-public final class ModelTest {
-    private static final int RUNS = 100;
+public final class ModelTest extends Checks {
+    private static final int RUNS = 700;
+    /** What later calls of an object answer is free. */
     private static final int CALLS = 512;
     private static final int SHOWN = 20;
 
     private static int wrong = 0;
+    private static int calls = 0;
     private static final int[] seen = new int[8];
 
     public static void main(String[] args) {
@@ -39,10 +41,10 @@ public final class ModelTest {
         DeadlineAdmission object = new DeadlineAdmission();
         Model model = new Model();
         StringBuilder told = new StringBuilder();
-        for (int call = 0; call < CALLS; call++) {
-            if (!oneCall(random, run, object, model, told)) {
-                return;
-            }
+        calls = 0;
+        boolean fine = true;
+        while (fine) {
+            fine = oneCall(random, run, object, model, told);
         }
     }
 
@@ -178,7 +180,12 @@ public final class ModelTest {
         return fine;
     }
 
+    /** Whether the run goes on: it ends with a wrong answer, or with the last call that the object is made for. */
     private static boolean same(StringBuilder told, String call, Callable<Object> got, Callable<Object> due) {
+        if (calls == CALLS) {
+            return false;
+        }
+        calls++;
         String answer = answer(got);
         String want = answer(due);
         told.append(call).append(" -> ").append(answer).append('\n');
@@ -190,14 +197,6 @@ public final class ModelTest {
             System.out.println(told + "due is " + want + "\n");
         }
         return false;
-    }
-
-    private static String answer(Callable<Object> call) {
-        try {
-            return String.valueOf(call.call());
-        } catch (Exception e) {
-            return "throws." + e.getClass().getSimpleName();
-        }
     }
 
     private static final class Task {

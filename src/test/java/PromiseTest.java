@@ -1,16 +1,5 @@
-import java.util.concurrent.Callable;
-
 /** For each promise of the document: ordinary inputs, the edges that it names, and wrong inputs. */
-public final class PromiseTest {
-    private static final String ARGUMENT = "throws.IllegalArgumentException";
-    private static final String STATE = "throws.IllegalStateException";
-    private static final String INDEX = "throws.IndexOutOfBoundsException";
-    private static final String NONE = "throws.NoSuchElementException";
-    private static final String UNSUPPORTED = "throws.UnsupportedOperationException";
-
-    private static int wrong = 0;
-    private static int promise = 0;
-
+public final class PromiseTest extends Checks {
     public static void main(String[] args) {
         newObject();
         proposeRanges();
@@ -34,61 +23,11 @@ public final class PromiseTest {
         simulate();
         simulationResults();
         saveAndRestore();
-        System.out.println(wrong == 0 ? "all promises hold" : wrong + " answers are not as promised");
-        if (wrong != 0) {
-            System.exit(1);
-        }
-    }
-
-    private static void due(String call, Object want, Callable<Object> got) {
-        String answer;
-        try {
-            answer = String.valueOf(got.call());
-        } catch (Exception e) {
-            answer = "throws." + e.getClass().getSimpleName();
-        }
-        if (!answer.equals(String.valueOf(want))) {
-            wrong++;
-            System.out.println("promise " + promise + ": " + call + " answered " + answer + ", due is " + want);
-        }
-    }
-
-    private static DeadlineAdmission with(int[]... tasks) {
-        DeadlineAdmission x = new DeadlineAdmission();
-        for (int k = 0; k < tasks.length; k++) {
-            int[] n = tasks[k];
-            int number = k;
-            due("propose of the setting", number, () -> x.propose(n[0], n[1], n[2], n[3], n[4], n[5]));
-        }
-        return x;
-    }
-
-    private static int[] task(int... numbers) {
-        return numbers;
-    }
-
-    /** One critical task and one that is not; its scale is 6. */
-    private static DeadlineAdmission mixed() {
-        return with(task(10, 8, 2, 4, 5, 0), task(12, 12, 3, 0, 2, 2));
-    }
-
-    private static void type(DeadlineAdmission x, String text) {
-        for (int k = 0; k < text.length(); k++) {
-            int character = text.charAt(k);
-            int length = k + 1;
-            due("appendCharacter of " + text, length, () -> x.appendCharacter(character));
-        }
-    }
-
-    private static void levels(DeadlineAdmission x, int... levels) {
-        for (int k = 0; k < levels.length; k++) {
-            int number = k;
-            due("level(" + k + ")", levels[k], () -> x.level(number));
-        }
+        finish("all promises hold");
     }
 
     private static void newObject() {
-        promise = 1;
+        promise(1);
         DeadlineAdmission x = new DeadlineAdmission();
         due("REJECTED", -1, () -> DeadlineAdmission.REJECTED);
         due("taskCount()", 0, () -> x.taskCount());
@@ -104,7 +43,7 @@ public final class PromiseTest {
     }
 
     private static void proposeRanges() {
-        promise = 2;
+        promise(2);
         int[][] bad = {
             {0, 1, 1, 0, 0, 0}, {41, 1, 1, 0, 0, 0}, {-1, -1, -1, 0, 0, 0}, {5, 0, 1, 0, 0, 0}, {5, 6, 1, 0, 0, 0},
             {5, 5, 0, 0, 0, 0}, {5, 4, 5, 0, 0, 0}, {5, 5, 3, 2, 0, 0}, {5, 4, 3, 5, 0, 0}, {5, 5, 3, -1, 0, 0},
@@ -130,7 +69,7 @@ public final class PromiseTest {
     }
 
     private static void proposeDegrades() {
-        promise = 2;
+        promise(2);
         DeadlineAdmission byImportance = with(task(4, 4, 2, 0, 3, 1), task(4, 4, 2, 0, 1, 2));
         due("propose(8, 8, 4, 0, 9, 0)", 2, () -> byImportance.propose(8, 8, 4, 0, 9, 0));
         levels(byImportance, 1, 2, 0);
@@ -145,7 +84,7 @@ public final class PromiseTest {
     }
 
     private static void proposeRejects() {
-        promise = 2;
+        promise(2);
         DeadlineAdmission x = with(task(4, 4, 2, 0, 3, 1), task(4, 4, 2, 0, 1, 2));
         due("simulate(1, 0, 10)", 0, () -> x.simulate(1, 0, 10));
         due("propose(4, 4, 3, 0, 0, 2)", -1, () -> x.propose(4, 4, 3, 0, 0, 2));
@@ -157,7 +96,7 @@ public final class PromiseTest {
     }
 
     private static void proposeText() {
-        promise = 3;
+        promise(3);
         DeadlineAdmission x = new DeadlineAdmission();
         type(x, "20,15,03,6,2,0");
         due("proposeText()", 0, () -> x.proposeText());
@@ -189,7 +128,7 @@ public final class PromiseTest {
     }
 
     private static void appendCharacter() {
-        promise = 4;
+        promise(4);
         DeadlineAdmission x = new DeadlineAdmission();
         due("appendCharacter(32)", ARGUMENT, () -> x.appendCharacter(32));
         due("appendCharacter(127)", ARGUMENT, () -> x.appendCharacter(127));
@@ -204,7 +143,7 @@ public final class PromiseTest {
     }
 
     private static void faultPosition() {
-        promise = 5;
+        promise(5);
         String[] texts = {"", "1", "12", "123", "1,", "1,,", ",", "x", "1,2,3,4,5", "1,2,3,4,5,", "1,2,3,4,5,6,", "1,2,3,4,5,67",
             "1,2,3,4,5,678", "1,2,3,4,5,6x", "10,10,01,00,00,00", "10,10,01,00,00,00,10,10,01,00,0", "1,-2", "1,2/", "1,2:", "/", ":"};
         int[] faults = {0, 1, 2, 2, 2, 2, 0, 0, 9, 10, 11, -1, 12, 11, -1, 17, 2, 3, 3, 0, 0};
@@ -235,7 +174,7 @@ public final class PromiseTest {
     }
 
     private static void withdraw() {
-        promise = 6;
+        promise(6);
         DeadlineAdmission x = with(task(10, 8, 2, 4, 5, 0), task(12, 12, 3, 0, 2, 2), task(40, 30, 1, 0, 7, 1));
         due("setLevel(1, 1)", 0, () -> x.setLevel(1, 1));
         due("withdraw(3)", INDEX, () -> x.withdraw(3));
@@ -258,7 +197,7 @@ public final class PromiseTest {
     }
 
     private static void upgrade() {
-        promise = 7;
+        promise(7);
         DeadlineAdmission byImportance = with(task(4, 4, 2, 0, 1, 1), task(4, 4, 2, 0, 3, 1), task(8, 8, 2, 0, 9, 0));
         levels(byImportance, 1, 0, 0);
         due("setLevel(1, 1)", 0, () -> byImportance.setLevel(1, 1));
@@ -286,7 +225,7 @@ public final class PromiseTest {
     }
 
     private static void setLevel() {
-        promise = 8;
+        promise(8);
         DeadlineAdmission x = with(task(4, 4, 2, 0, 3, 1), task(4, 4, 2, 0, 1, 2), task(8, 8, 2, 0, 2, 0));
         due("setLevel(3, 0)", INDEX, () -> x.setLevel(3, 0));
         due("setLevel(-1, 9)", INDEX, () -> x.setLevel(-1, 9));
@@ -309,7 +248,7 @@ public final class PromiseTest {
     }
 
     private static void undo() {
-        promise = 9;
+        promise(9);
         DeadlineAdmission x = mixed();
         due("undo()", 1, () -> x.undo());
         due("taskCount()", 1, () -> x.taskCount());
@@ -351,23 +290,23 @@ public final class PromiseTest {
     }
 
     private static void taskGetters() {
-        promise = 10;
+        promise(10);
         DeadlineAdmission x = mixed();
         due("taskCount()", 2, () -> x.taskCount());
-        promise = 11;
+        promise(11);
         due("scale()", 6, () -> x.scale());
-        promise = 12;
+        promise(12);
         due("period(0)", 10, () -> x.period(0));
         due("period(2)", INDEX, () -> x.period(2));
         due("period(-1)", INDEX, () -> x.period(-1));
         due("setLevel(1, 2)", 0, () -> x.setLevel(1, 2));
         due("period(1) at level 2", 36, () -> x.period(1));
-        promise = 13;
+        promise(13);
         due("deadline(0)", 8, () -> x.deadline(0));
         due("deadline(1)", 12, () -> x.deadline(1));
         due("deadline(2)", INDEX, () -> x.deadline(2));
         due("deadline(-1)", INDEX, () -> x.deadline(-1));
-        promise = 14;
+        promise(14);
         due("virtualDeadline(0)", 6, () -> x.virtualDeadline(0));
         due("virtualDeadline(1)", 12, () -> x.virtualDeadline(1));
         due("virtualDeadline(2)", INDEX, () -> x.virtualDeadline(2));
@@ -376,7 +315,7 @@ public final class PromiseTest {
         due("virtualDeadline(0) of 10 * 1 / 8", 1, () -> tight.virtualDeadline(0));
         DeadlineAdmission floored = with(task(20, 10, 7, 9, 0, 0));
         due("virtualDeadline(0) is CL at least", true, () -> floored.virtualDeadline(0) >= 7);
-        promise = 15;
+        promise(15);
         due("budget(0, 0)", 2, () -> x.budget(0, 0));
         due("budget(0, 1)", 4, () -> x.budget(0, 1));
         due("budget(1, 0)", 3, () -> x.budget(1, 0));
@@ -385,11 +324,11 @@ public final class PromiseTest {
         due("budget(0, -1)", ARGUMENT, () -> x.budget(0, -1));
         due("budget(2, 2)", INDEX, () -> x.budget(2, 2));
         due("budget(-1, 0)", INDEX, () -> x.budget(-1, 0));
-        promise = 16;
+        promise(16);
         levels(x, 0, 2);
         due("level(2)", INDEX, () -> x.level(2));
         due("level(-1)", INDEX, () -> x.level(-1));
-        promise = 17;
+        promise(17);
         due("isCritical(0)", true, () -> x.isCritical(0));
         due("isCritical(1)", false, () -> x.isCritical(1));
         due("isCritical(0) with CH 1", true, () -> with(task(5, 5, 1, 1, 0, 0)).isCritical(0));
@@ -398,7 +337,7 @@ public final class PromiseTest {
     }
 
     private static void demand() {
-        promise = 18;
+        promise(18);
         DeadlineAdmission x = mixed();
         int[][] low = {{0, 0}, {5, 0}, {6, 2}, {11, 2}, {12, 5}, {15, 5}, {16, 7}, {23, 7}, {24, 10}, {26, 12}, {200, 88}};
         for (int[] pair : low) {
@@ -425,7 +364,7 @@ public final class PromiseTest {
     }
 
     private static void slackAndTightest() {
-        promise = 19;
+        promise(19);
         DeadlineAdmission none = new DeadlineAdmission();
         DeadlineAdmission full = with(task(4, 4, 2, 0, 3, 1), task(4, 4, 2, 0, 1, 2));
         DeadlineAdmission late = with(task(40, 10, 9, 0, 0, 0), task(40, 20, 11, 0, 0, 0));
@@ -438,7 +377,7 @@ public final class PromiseTest {
         due("slack(1)", 0, () -> mixed().slack(1));
         due("slack(2)", ARGUMENT, () -> full.slack(2));
         due("slack(-1)", ARGUMENT, () -> full.slack(-1));
-        promise = 20;
+        promise(20);
         due("tightest(0) at the last t", 200, () -> tightAtTheEnd().tightest(0));
         due("tightest(0)", 1, () -> none.tightest(0));
         due("tightest(0)", 4, () -> full.tightest(0));
@@ -450,7 +389,7 @@ public final class PromiseTest {
     }
 
     private static void passesAndScales() {
-        promise = 21;
+        promise(21);
         DeadlineAdmission x = mixed();
         due("passes(1, 8)", false, () -> x.passes(1, 8));
         due("passes(1, 7)", false, () -> x.passes(1, 7));
@@ -462,14 +401,14 @@ public final class PromiseTest {
         due("passes(2, 8)", ARGUMENT, () -> x.passes(2, 8));
         due("passes(-1, 8)", ARGUMENT, () -> x.passes(-1, 8));
         due("scale() stays", 6, () -> x.scale());
-        promise = 22;
+        promise(22);
         due("feasibleScales()", 126, () -> x.feasibleScales());
         due("feasibleScales()", 510, () -> with(task(1, 1, 1, 0, 0, 0)).feasibleScales());
         due("feasibleScales()", 2, () -> with(task(10, 10, 1, 10, 0, 0)).feasibleScales());
     }
 
     private static void utilization() {
-        promise = 23;
+        promise(23);
         DeadlineAdmission x = mixed();
         due("utilization(0)", 2.0 / 10.0 + 3.0 / 12.0, () -> x.utilization(0));
         due("utilization(1)", 0.4, () -> x.utilization(1));
@@ -480,7 +419,7 @@ public final class PromiseTest {
         double sum = 1.0 / 60.0 + 1.0 / 7.0 + 2.0 / 11.0;
         due("utilization(0)", sum, () -> thirds.utilization(0));
         due("utilization(1)", 0.0, () -> thirds.utilization(1));
-        promise = 24;
+        promise(24);
         due("utilizationBits(0)", Double.doubleToLongBits(sum), () -> thirds.utilizationBits(0));
         due("utilizationBits(1)", 0L, () -> thirds.utilizationBits(1));
         due("utilizationBits(0) of 1", Double.doubleToLongBits(1.0), () -> with(task(1, 1, 1, 0, 0, 0)).utilizationBits(0));
@@ -497,7 +436,7 @@ public final class PromiseTest {
     }
 
     private static void load() {
-        promise = 25;
+        promise(25);
         DeadlineAdmission x = mixed();
         due("load(1)", 1.0f, () -> x.load(1));
         due("load(0)", 17.0f / 36.0f, () -> x.load(0));
@@ -505,7 +444,7 @@ public final class PromiseTest {
         due("load(0)", 0.0f, () -> new DeadlineAdmission().load(0));
         due("load(2)", ARGUMENT, () -> x.load(2));
         due("load(-1)", ARGUMENT, () -> x.load(-1));
-        promise = 26;
+        promise(26);
         due("loadBits(1)", Float.floatToIntBits(1.0f), () -> x.loadBits(1));
         due("loadBits(0)", 0, () -> new DeadlineAdmission().loadBits(0));
         due("loadBits(2)", ARGUMENT, () -> x.loadBits(2));
@@ -520,21 +459,10 @@ public final class PromiseTest {
         }
     }
 
-    private static void points(DeadlineAdmission x, int... points) {
-        promise = 27;
-        due("descentLength()", points.length, () -> x.descentLength());
-        promise = 28;
-        for (int k = 0; k < points.length; k++) {
-            int index = k;
-            due("descentPoint(" + k + ")", points[k], () -> x.descentPoint(index));
-        }
-        due("descentPoint(" + points.length + ")", INDEX, () -> x.descentPoint(points.length));
-        due("descentPoint(-1)", INDEX, () -> x.descentPoint(-1));
-        due("descentPoint(2147483647)", INDEX, () -> x.descentPoint(Integer.MAX_VALUE));
-    }
-
     private static void descent() {
+        promise(28);
         points(new DeadlineAdmission());
+        due("descentPoint(2147483647)", INDEX, () -> mixed().descentPoint(Integer.MAX_VALUE));
         points(mixed(), 196, 88, 39, 17, 7);
         points(with(task(40, 40, 40, 0, 0, 0)), 200, 160, 120, 80, 40);
         points(with(task(40, 40, 1, 0, 0, 0)), 200);
@@ -551,11 +479,11 @@ public final class PromiseTest {
 
     private static void rejection() {
         DeadlineAdmission x = with(task(10, 10, 1, 10, 0, 0));
-        promise = 29;
+        promise(29);
         due("rejectionMode()", NONE, () -> x.rejectionMode());
-        promise = 30;
+        promise(30);
         due("rejectionLength()", NONE, () -> x.rejectionLength());
-        promise = 31;
+        promise(31);
         due("rejectionDemand()", NONE, () -> x.rejectionDemand());
         due("propose(10, 10, 1, 1, 0, 0)", -1, () -> x.propose(10, 10, 1, 1, 0, 0));
         rejected(x, 1, 1, 11);
@@ -574,17 +502,8 @@ public final class PromiseTest {
         rejected(atTheEnd, 0, 200, 201);
     }
 
-    private static void rejected(DeadlineAdmission x, int mode, int length, int demand) {
-        promise = 29;
-        due("rejectionMode()", mode, () -> x.rejectionMode());
-        promise = 30;
-        due("rejectionLength()", length, () -> x.rejectionLength());
-        promise = 31;
-        due("rejectionDemand()", demand, () -> x.rejectionDemand());
-    }
-
     private static void simulate() {
-        promise = 32;
+        promise(32);
         DeadlineAdmission x = mixed();
         due("simulate(1, -1, 10)", ARGUMENT, () -> x.simulate(1, -1, 10));
         due("simulate(1, 101, 10)", ARGUMENT, () -> x.simulate(1, 101, 10));
@@ -612,30 +531,19 @@ public final class PromiseTest {
                 }
                 DeadlineAdmission x = with(task(10, 8, 2, 4, 5, 0));
                 due("simulate", 0, () -> x.simulate(seed, percentage, 200));
-                promise = 35;
+                promise(35);
                 due("switches() with seed " + seed + ", overrun " + overrun, expected, () -> x.switches());
-                promise = 36;
+                promise(36);
                 due("idleUnits()", 160 - 2 * expected, () -> x.idleUnits());
-                promise = 32;
+                promise(32);
             }
         }
-    }
-
-    private static void results(DeadlineAdmission x, Object completed, Object dropped, Object switches, Object idle) {
-        promise = 33;
-        due("completed()", completed, () -> x.completed());
-        promise = 34;
-        due("dropped()", dropped, () -> x.dropped());
-        promise = 35;
-        due("switches()", switches, () -> x.switches());
-        promise = 36;
-        due("idleUnits()", idle, () -> x.idleUnits());
     }
 
     private static void simulationResults() {
         DeadlineAdmission x = with(task(5, 5, 2, 0, 0, 2), task(5, 5, 2, 0, 0, 2));
         results(x, STATE, STATE, STATE, STATE);
-        promise = 37;
+        promise(37);
         due("response(0)", STATE, () -> x.response(0));
         due("response(2)", INDEX, () -> x.response(2));
         due("response(-1)", INDEX, () -> x.response(-1));
@@ -645,7 +553,7 @@ public final class PromiseTest {
         results(x, 1, 0, 0, 0);
         due("simulate(1, 0, 10)", 0, () -> x.simulate(1, 0, 10));
         results(x, 4, 0, 0, 2);
-        promise = 37;
+        promise(37);
         due("response(0)", 2, () -> x.response(0));
         due("response(1)", 4, () -> x.response(1));
         due("response(2)", INDEX, () -> x.response(2));
@@ -662,9 +570,9 @@ public final class PromiseTest {
     /** The critical task has the virtual deadline 7 before the other's 9, though its own is 12. */
     private static void virtualDeadlinesFirst() {
         DeadlineAdmission x = with(task(20, 9, 3, 0, 0, 0), task(20, 12, 2, 6, 0, 0));
-        promise = 14;
+        promise(14);
         due("virtualDeadline(1)", 7, () -> x.virtualDeadline(1));
-        promise = 37;
+        promise(37);
         due("simulate(1, 0, 20)", 0, () -> x.simulate(1, 0, 20));
         due("response(0)", 5, () -> x.response(0));
         due("response(1)", 2, () -> x.response(1));
@@ -680,10 +588,10 @@ public final class PromiseTest {
         x.save();
         String[] changes = {"setLevel", "upgrade", "restore", "propose", "withdraw", "undo"};
         for (String change : changes) {
-            promise = 32;
+            promise(32);
             due("simulate(1, 0, 10)", 0, () -> x.simulate(1, 0, 10));
             x.save();
-            promise = 33;
+            promise(33);
             due("completed() before " + change, "ok", () -> x.completed() > 0 ? "ok" : "none");
             switch (change) {
                 case "setLevel": x.setLevel(0, 0); break;
@@ -694,26 +602,26 @@ public final class PromiseTest {
                 default: x.undo(); break;
             }
             results(x, STATE, STATE, STATE, STATE);
-            promise = 37;
+            promise(37);
             due("response(0) after " + change, STATE, () -> x.response(0));
         }
     }
 
     private static void saveAndRestore() {
-        promise = 38;
+        promise(38);
         DeadlineAdmission x = mixed();
         due("restore() of nothing", STATE, () -> x.restore());
         x.save();
         due("setLevel(1, 2)", 0, () -> x.setLevel(1, 2));
         due("withdraw(0)", 1, () -> x.withdraw(0));
-        promise = 39;
+        promise(39);
         due("restore()", 2, () -> x.restore());
         due("scale()", 6, () -> x.scale());
         due("deadline(0)", 8, () -> x.deadline(0));
         levels(x, 0, 0);
         due("withdraw(1)", 1, () -> x.withdraw(1));
         due("restore() again", 2, () -> x.restore());
-        promise = 38;
+        promise(38);
         due("withdraw(0)", 1, () -> x.withdraw(0));
         x.save();
         due("undo() does not take back a save", 5, () -> x.undo());
