@@ -1,4 +1,5 @@
 import java.lang.reflect.Constructor;
+import java.lang.reflect.Executable;
 import java.lang.reflect.Field;
 import java.lang.reflect.Member;
 import java.lang.reflect.Method;
@@ -9,15 +10,46 @@ import java.util.TreeSet;
 /** The class shows the face of the document and nothing more, and its classes inside keep to the language's rules. */
 public final class FaceTest {
     private static final String[] FACE = {
-        "static final int REJECTED", "DeadlineAdmission()",
-        "int propose(int,int,int,int,int,int)", "int proposeText()", "int appendCharacter(int)", "int faultPosition()",
-        "int withdraw(int)", "int upgrade()", "int setLevel(int,int)", "int undo()", "int taskCount()", "int scale()",
-        "int period(int)", "int deadline(int)", "int virtualDeadline(int)", "int budget(int,int)", "int level(int)",
-        "boolean isCritical(int)", "int demand(int,int)", "int slack(int)", "int tightest(int)",
-        "boolean passes(int,int)", "int feasibleScales()", "double utilization(int)", "long utilizationBits(int)",
-        "float load(int)", "int loadBits(int)", "int descentLength()", "int descentPoint(int)", "int rejectionMode()",
-        "int rejectionLength()", "int rejectionDemand()", "int simulate(int,int,int)", "int completed()",
-        "int dropped()", "int switches()", "int idleUnits()", "int response(int)", "void save()", "int restore()"
+        "public static final int REJECTED",
+        "public DeadlineAdmission()",
+        "public int propose(int,int,int,int,int,int) throws IllegalArgumentException,IllegalStateException",
+        "public int proposeText() throws IllegalArgumentException,IllegalStateException",
+        "public int appendCharacter(int) throws IllegalArgumentException,IllegalStateException",
+        "public int faultPosition()",
+        "public int withdraw(int) throws IndexOutOfBoundsException",
+        "public int upgrade()",
+        "public int setLevel(int,int) throws IndexOutOfBoundsException,IllegalArgumentException,IllegalStateException",
+        "public int undo() throws IllegalStateException",
+        "public int taskCount()",
+        "public int scale()",
+        "public int period(int) throws IndexOutOfBoundsException",
+        "public int deadline(int) throws IndexOutOfBoundsException",
+        "public int virtualDeadline(int) throws IndexOutOfBoundsException",
+        "public int budget(int,int) throws IndexOutOfBoundsException,IllegalArgumentException,UnsupportedOperationException",
+        "public int level(int) throws IndexOutOfBoundsException",
+        "public boolean isCritical(int) throws IndexOutOfBoundsException",
+        "public int demand(int,int) throws IllegalArgumentException",
+        "public int slack(int) throws IllegalArgumentException",
+        "public int tightest(int) throws IllegalArgumentException",
+        "public boolean passes(int,int) throws IllegalArgumentException",
+        "public int feasibleScales()",
+        "public double utilization(int) throws IllegalArgumentException",
+        "public long utilizationBits(int) throws IllegalArgumentException",
+        "public float load(int) throws IllegalArgumentException",
+        "public int loadBits(int) throws IllegalArgumentException",
+        "public int descentLength()",
+        "public int descentPoint(int) throws IndexOutOfBoundsException",
+        "public int rejectionMode() throws NoSuchElementException",
+        "public int rejectionLength() throws NoSuchElementException",
+        "public int rejectionDemand() throws NoSuchElementException",
+        "public int simulate(int,int,int) throws IllegalArgumentException",
+        "public int completed() throws IllegalStateException",
+        "public int dropped() throws IllegalStateException",
+        "public int switches() throws IllegalStateException",
+        "public int idleUnits() throws IllegalStateException",
+        "public int response(int) throws IndexOutOfBoundsException,IllegalStateException,NoSuchElementException",
+        "public void save()",
+        "public int restore() throws IllegalStateException"
     };
 
     private static int wrong = 0;
@@ -56,32 +88,37 @@ public final class FaceTest {
         return !Modifier.isPrivate(member.getModifiers()) && !member.isSynthetic();
     }
 
-    private static String parameters(Class<?>[] types) {
-        StringBuilder text = new StringBuilder("(");
+    private static String names(Class<?>[] types) {
+        StringBuilder text = new StringBuilder();
         for (int k = 0; k < types.length; k++) {
-            text.append(k > 0 ? "," : "").append(types[k].getName());
+            text.append(k > 0 ? "," : "").append(types[k].getSimpleName());
         }
-        return text.append(")").toString();
+        return text.toString();
+    }
+
+    /** Modifiers as written, so that a static, synchronized or missing one shows. */
+    private static String signature(Executable call, String name) {
+        String thrown = names(call.getExceptionTypes());
+        return Modifier.toString(call.getModifiers()) + " " + name + "(" + names(call.getParameterTypes()) + ")"
+            + (thrown.isEmpty() ? "" : " throws " + thrown);
     }
 
     private static Set<String> shownMembers(Class<?> face) {
         Set<String> shown = new TreeSet<>();
         for (Field field : face.getDeclaredFields()) {
             if (shows(field)) {
-                due(field + " is public", Modifier.isPublic(field.getModifiers()));
-                shown.add("static final " + field.getType().getName() + " " + field.getName());
+                shown.add(Modifier.toString(field.getModifiers()) + " " + field.getType().getName() + " " + field.getName());
             }
         }
         for (Constructor<?> constructor : face.getDeclaredConstructors()) {
             if (shows(constructor)) {
-                shown.add("DeadlineAdmission" + parameters(constructor.getParameterTypes()));
+                shown.add(signature(constructor, "DeadlineAdmission"));
             }
         }
         for (Method method : face.getDeclaredMethods()) {
             if (shows(method)) {
-                due(method + " is public", Modifier.isPublic(method.getModifiers()));
                 publicNames.add(method.getName());
-                shown.add(method.getReturnType().getName() + " " + method.getName() + parameters(method.getParameterTypes()));
+                shown.add(signature(method, method.getReturnType().getName() + " " + method.getName()));
             }
         }
         return shown;

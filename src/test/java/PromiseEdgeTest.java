@@ -757,16 +757,40 @@ public final class PromiseEdgeTest extends Checks {
         });
         forgets("withdraw", 1, x -> x.withdraw(1));
         forgets("setLevel", 0, x -> x.setLevel(1, 1));
-        sentence("promises 33 to 37, a successful change by which nothing changed");
+        sentence("promises 33 to 37 and 9, a successful call, also if nothing changed by it");
         forgets("setLevel to the same level", 0, x -> x.setLevel(1, 0));
         forgets("upgrade", 0, x -> x.upgrade());
         forgets("restore", 2, x -> x.restore());
+        forgottenWithoutTasks();
+        sentence("promises 33 to 37, upgrade and restore by which something changed");
+        DeadlineAdmission slower = simulated();
+        due("setLevel(1, 2)", 0, () -> slower.setLevel(1, 2));
+        due("simulate(1, 0, 10)", 0, () -> slower.simulate(1, 0, 10));
+        due("upgrade()", 2, () -> slower.upgrade());
+        forgotten(slower);
+        due("setLevel(1, 2)", 0, () -> slower.setLevel(1, 2));
+        due("simulate(1, 0, 10)", 0, () -> slower.simulate(1, 0, 10));
+        due("restore()", 2, () -> slower.restore());
+        forgotten(slower);
         sentence("promises 33 to 37, an admission that is taken back");
         DeadlineAdmission undone = simulated();
         due("undo()", 1, () -> undone.undo());
         forgotten(undone);
         sentence("promises 33 to 37, no simulation at all");
         forgotten(mixed());
+    }
+
+    /** Where there is nothing to change at all, upgrade, restore and undo count all the same. */
+    private static void forgottenWithoutTasks() {
+        DeadlineAdmission none = new DeadlineAdmission();
+        none.save();
+        List<Change> changes = List.of(x -> x.upgrade(), x -> x.restore(), x -> x.undo() - 1, x -> x.undo());
+        for (Change change : changes) {
+            due("simulate(1, 0, 7)", 0, () -> none.simulate(1, 0, 7));
+            results(none, 0, 0, 0, 7);
+            due("a change of no tasks", 0, () -> change.on(none));
+            results(none, STATE, STATE, STATE, STATE);
+        }
     }
 
     private static void keeps(String call, Object want, Change noChange) {
